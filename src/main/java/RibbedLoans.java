@@ -20,12 +20,20 @@ public final class RibbedLoans {
     private static final int MOST_RATE = 5;
     private static final int MOST_STATES = 5;
     private static final int MOST_CHARACTERS = 80;
+    private static final int MOST_BOUGHT = 20;
+
+    private static final int START_ROOM = 8;
+    private static final int START_PURSE = 40;
+    private static final int START_HOUSE = 100;
+    private static final int START_RATE = 1;
 
     private static final int LAST_HOUR = 500;
     private static final int MOST_RAIN = 9;
     private static final int MOST_GUSTS = 3;
     private static final int SHOWER_RAIN = 2;
     private static final int SURGE_RAIN = 5;
+    private static final int MOST_FEE_HOURS = 50;
+    private static final int MOST_BREAK_HOURS = 100;
 
     private static final int DEPOSIT = 10;
     private static final int BREAKING_FEE = 4;
@@ -50,6 +58,9 @@ public final class RibbedLoans {
     private static final int IN_VAN = 2;
     private static final int IN_WORKSHOP = 3;
     private static final int IN_SCRAP = 4;
+
+    /** What an answer to a text with a fault starts from. */
+    private static final int FAULTY = -1000;
 
     /** Far more than levelling can move: each move makes the stands' numbers more alike. */
     private static final int MOST_MOVES = 1000000;
@@ -207,7 +218,7 @@ public final class RibbedLoans {
     public int carryOut() {
         int fault = text.fault();
         if (fault != NONE) {
-            return -1000 - fault;
+            return FAULTY - fault;
         }
         history.record(now);
         int done = 0;
@@ -334,7 +345,7 @@ public final class RibbedLoans {
     // ---- what could be, which changes nothing
 
     public int feeIn(int person, int hours, int rain) {
-        if (outside(person, 0, PERSONS - 1) || outside(hours, 0, 50) || outside(rain, 0, MOST_RAIN)) {
+        if (outside(person, 0, PERSONS - 1) || outside(hours, 0, MOST_FEE_HOURS) || outside(rain, 0, MOST_RAIN)) {
             return INVALID_ARGUMENT;
         }
         if (!now.city.hasOne(person)) {
@@ -581,17 +592,17 @@ public final class RibbedLoans {
     /** All that a snapshot keeps. Whoever changes something asks for its error first. */
     private static final class City {
         private final Umbrellas umbrellas = new Umbrellas();
-        private final Row rooms = new Row(STANDS, 8);
-        private final Row purses = new Row(PERSONS, 40);
+        private final Row rooms = new Row(STANDS, START_ROOM);
+        private final Row purses = new Row(PERSONS, START_PURSE);
         private final Row showers = new Row(PERSONS, 0);
         private final Row homes = new Row(PERSONS, 0);
         private final Row paid = new Row(PERSONS, 0);
         private int hours;
-        private int house = 100;
+        private int house = START_HOUSE;
         private int spent;
         private int loans;
         private int surges;
-        private int rate = 1;
+        private int rate = START_RATE;
 
         City() {
             for (int person = 0; person < PERSONS; person++) {
@@ -639,7 +650,7 @@ public final class RibbedLoans {
         // -- umbrellas and loans
 
         int buyingError(int stand, int many) {
-            if (outside(stand, 0, STANDS - 1) || outside(many, 1, 20)) {
+            if (outside(stand, 0, STANDS - 1) || outside(many, 1, MOST_BOUGHT)) {
                 return INVALID_ARGUMENT;
             }
             if (spendable() < PRICE * many) {
@@ -694,12 +705,16 @@ public final class RibbedLoans {
 
         int lend(int person, int stand) {
             int umbrella = umbrellas.bestAt(stand);
+            handOut(person, umbrella);
+            return umbrella;
+        }
+
+        private void handOut(int person, int umbrella) {
             umbrellas.move(umbrella, FIRST_HAND + person);
             umbrellas.lendings.add(umbrella, 1);
             purses.add(person, -DEPOSIT);
             house += DEPOSIT;
             loans++;
-            return umbrella;
         }
 
         int returningError(int person, int stand) {
@@ -736,7 +751,7 @@ public final class RibbedLoans {
 
         int hoursToBreak(int person, int rain, int gusts) {
             int wear = umbrellas.wears.at(inHand(person));
-            for (int past = 0; past <= 100; past++) {
+            for (int past = 0; past <= MOST_BREAK_HOURS; past++) {
                 if (wear >= BROKEN_WEAR) {
                     return past;
                 }
@@ -793,9 +808,9 @@ public final class RibbedLoans {
         private void surge() {
             surges++;
             for (int person = 0; person < PERSONS; person++) {
-                int home = homes.at(person);
-                if (wouldBorrow(person) && umbrellas.bestAt(home) != NONE) {
-                    lend(person, home);
+                int umbrella = umbrellas.bestAt(homes.at(person));
+                if (umbrella != NONE && wouldBorrow(person)) {
+                    handOut(person, umbrella);
                 }
             }
         }

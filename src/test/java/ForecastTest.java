@@ -33,6 +33,9 @@ public final class ForecastTest {
             CHECK.refused("23: out of range", x, () -> x.feeIn(w[0], w[1], w[2]), RibbedLoans.INVALID_ARGUMENT);
         }
         CHECK.refused("23: changes nothing", x, () -> x.feeIn(4, 20, 9), 4);
+        x.buy(1, 1);
+        x.borrow(11, 1);
+        CHECK.due("23: the last person", x.feeIn(11, 50, 9), 4);
     }
 
     private static void promise24() {
@@ -58,6 +61,9 @@ public final class ForecastTest {
         x.hour(1, 0);
         CHECK.due("24: broken", x.breaksIn(4, 9, 3), 0);
         CHECK.due("24: broken", x.breaksIn(4, 0, 0), 0);
+        x.buy(1, 1);
+        x.borrow(11, 1);
+        CHECK.due("24: the last person", x.breaksIn(11, 9, 3), 3);
     }
 
     private static void promise25() {

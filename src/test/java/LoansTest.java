@@ -258,6 +258,20 @@ public final class LoansTest {
         CHECK.due("6: twice from 2 on", x.umbrella(0, 2), 24);
         CHECK.due("6: breaks at 4", x.hour(4, 0), 1);
         CHECK.due("6: wear 4", x.umbrella(0, 2), 32);
+        CHECK.due("6: broken at 4", x.umbrella(0, 3), 1);
+        CHECK.due("6: broken before", x.hour(1, 0), 0);
+        x.undo();
+        x.bringBack(0, 0);
+        CHECK.refused("6: wear 4 is not lent", x, () -> x.borrow(0, 0), RibbedLoans.ILLEGAL_STATE);
+        RibbedLoans y = new RibbedLoans();
+        y.buy(0, 1);
+        y.borrow(0, 0);
+        y.hour(9, 3);
+        y.hour(8, 3);
+        y.hour(1, 0);
+        CHECK.due("6: wear 31 eighths", y.umbrella(0, 2), 31);
+        y.bringBack(0, 0);
+        CHECK.due("6: is lent", y.borrow(1, 0), 0);
     }
 
     private static void promise6Surge() {
@@ -265,14 +279,16 @@ public final class LoansTest {
         x.buy(1, 1);
         x.buy(2, 3);
         x.borrow(2, 2);
+        x.buy(0, 2);
         CHECK.due("6: surge", x.hour(5, 3), 0);
+        CHECK.due("6: person 0", x.person(0, 1), 4);
         CHECK.due("6: surges", x.count(13), 1);
         CHECK.due("6: first person first", x.person(1, 1), 0);
         CHECK.due("6: none left", x.person(9, 1), RibbedLoans.NONE);
         CHECK.due("6: has one", x.person(2, 1), 1);
         CHECK.due("6: home of 10", x.person(10, 1), 2);
-        CHECK.due("6: loans", x.count(12), 3);
-        CHECK.due("6: deposits", x.count(8), 110);
+        CHECK.due("6: loans", x.count(12), 5);
+        CHECK.due("6: deposits", x.count(8), 120);
         CHECK.due("6: lent after the wear", x.umbrella(2, 2), 0);
         CHECK.due("6: no shower at its begin", x.person(10, 2), 0);
         CHECK.due("6: shower of the loan before", x.person(2, 2), 1);

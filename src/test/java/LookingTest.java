@@ -12,7 +12,7 @@ public final class LookingTest {
         CHECK.end("LookingTest");
     }
 
-    /** Umbrellas at every place: 0 and 1 mended of and scrapped, 2 in the workshop, 3 and 4 in vans, 5 in a hand. */
+    /** Umbrellas at every place: 0 is mended, 1 scrapped, 2 in the workshop, 3 and 4 in a van, 5 in a hand. */
     private static RibbedLoans town() {
         RibbedLoans x = new RibbedLoans();
         x.set(0, 20);
@@ -116,6 +116,8 @@ public final class LookingTest {
         x.unload(0, 1, 2);
         CHECK.due("20: worst of two", x.stand(1, 4), 0);
         CHECK.due("20: none", x.stand(5, 4), RibbedLoans.NONE);
+        CHECK.due("20: no worst one in the stand 0", x.stand(0, 4), RibbedLoans.NONE);
+        CHECK.due("20: no best one in the stand 0", x.stand(0, 3), RibbedLoans.NONE);
     }
 
     private static void promise21(RibbedLoans x) {

@@ -194,5 +194,14 @@ public final class SnapshotsTest {
         y.undo();
         CHECK.due("14: the state before the restoring", y.count(1), 2);
         CHECK.due("14: its house", y.count(8), 90);
+        y.hour(0, 0);
+        y.take(1);
+        y.undo();
+        CHECK.due("14: the older one in the slot 1", y.restore(1), 0);
+        y.undo();
+        y.undo();
+        y.undo();
+        y.undo();
+        CHECK.due("14: none in the slot 1", y.restore(1), RibbedLoans.ILLEGAL_STATE);
     }
 }

@@ -59,6 +59,14 @@ public final class WorkshopTest {
         for (int[] w : wrong) {
             CHECK.refused("7: out of range", x, () -> x.load(w[0], w[1], w[2]), RibbedLoans.INVALID_ARGUMENT);
         }
+        x.unload(0, 7, 8);
+        x.load(0, 7, 1);
+        x.load(1, 7, 7);
+        x.unload(0, 7, 1);
+        CHECK.due("7: 9 in the van 1", x.inVan(1, 9), RibbedLoans.NONE);
+        CHECK.due("7: the tenth", x.load(1, 7, 1), 0);
+        x.buy(7, 1);
+        CHECK.refused("7: the van 1 is full", x, () -> x.load(1, 7, 1), RibbedLoans.CAPACITY_EXCEEDED);
     }
 
     private static void promise8() {
@@ -77,7 +85,9 @@ public final class WorkshopTest {
         CHECK.due("8: past the broken one", x.umbrella(2, 1), 4);
         CHECK.due("8: and on", x.umbrella(3, 1), 4);
         CHECK.due("8: the broken one stays", x.inVan(1, 0), 1);
-        CHECK.due("8: the last whole one", x.unload(1, 4, 1), 1);
+        CHECK.due("8: the last whole one", x.unload(1, 7, 1), 1);
+        x.load(1, 7, 1);
+        CHECK.due("8: to the stand 0", x.unload(1, 0, 1), 1);
         int[][] wrong = {{-1, 0, 1}, {2, 0, 1}, {1, -1, 1}, {1, 8, 1}, {1, 0, 0}, {1, 0, 11}};
         for (int[] w : wrong) {
             CHECK.refused("8: out of range", x, () -> x.unload(w[0], w[1], w[2]), RibbedLoans.INVALID_ARGUMENT);
@@ -140,6 +150,14 @@ public final class WorkshopTest {
         CHECK.due("10: and the second", x.umbrella(2, 0), 4);
         CHECK.due("10: not the third", x.umbrella(3, 0), 3);
         CHECK.due("10: nor the more worn one", x.umbrella(0, 0), 3);
+        RibbedLoans y = withBroken(3, 6, 6);
+        y.load(0, 0, 2);
+        y.toWorkshop(0);
+        CHECK.due("10: as worn as can be", y.umbrella(0, 2), 64);
+        y.set(0, 2);
+        CHECK.due("10: the last place", y.mend(0), 0);
+        CHECK.due("10: wear 2", y.umbrella(0, 2), 16);
+        CHECK.due("10: full now", y.stand(0, 1), 2);
     }
 
     private static void promise10Coins() {
@@ -162,19 +180,6 @@ public final class WorkshopTest {
         CHECK.due("10: just 3", x.count(8), 3);
         CHECK.due("10: enough", x.mend(1), 0);
         CHECK.due("10: nothing left", x.count(8), 0);
-        x.undo();
-        x.undo();
-        x.undo();
-        x.borrow(5, 0);
-        x.buy(1, 2);
-        CHECK.due("10: 3 above a deposit", x.count(8), 13);
-        x.mend(1);
-        x.undo();
-        x.bringBack(5, 0);
-        x.undo();
-        x.undo();
-        x.undo();
-        CHECK.due("10: as it was", x.count(8), 13);
         poorHouse();
     }
 
@@ -273,6 +278,11 @@ public final class WorkshopTest {
             }
         }
         CHECK.due("11: no room anywhere", y.level(), 0);
+        RibbedLoans z = new RibbedLoans();
+        z.buy(1, 3);
+        CHECK.due("11: from 1", z.level(), 2);
+        CHECK.due("11: to 0", z.umbrella(0, 1), 0);
+        CHECK.due("11: then to 2", z.umbrella(1, 1), 2);
     }
 
     private static void promise11Ends() {
