@@ -1068,8 +1068,6 @@ public final class RibbedLoans {
         /** Reads an order if there is one; else the cursor stays at the fault. */
         boolean readOrder() {
             verb = peek();
-            first = 0;
-            second = 0;
             switch (verb) {
                 case 'b':
                 case 'r':
