@@ -2,12 +2,17 @@ import java.util.ArrayList;
 import java.util.List;
 import java.util.function.IntSupplier;
 
-/** Compares answers with those that are due, and ends a test. */
+/** Compares answers with those that are due. */
 final class Check {
-    private static final int MOST_LINES = 40;
+    private static final int MOST_LINES = 20;
 
+    private final String test;
     private int made;
     private int wrong;
+
+    Check(String test) {
+        this.test = test;
+    }
 
     void due(String call, long got, long want) {
         made++;
@@ -23,17 +28,41 @@ final class Check {
         }
     }
 
-    /** The call answers an error code and changes nothing that can be looked at. */
-    void refused(String call, RibbedLoans x, IntSupplier made, int want) {
+    /** The call answers so, and changes nothing that can be looked at. */
+    void keeps(String call, RibbedLoans x, IntSupplier made, int want) {
         List<Integer> before = look(x);
         due(call, made.getAsInt(), want);
         holds(call + " changes nothing", look(x).equals(before));
     }
 
+    void invalid(String call, RibbedLoans x, IntSupplier made) {
+        keeps(call, x, made, RibbedLoans.INVALID_ARGUMENT);
+    }
+
+    void illegal(String call, RibbedLoans x, IntSupplier made) {
+        keeps(call, x, made, RibbedLoans.ILLEGAL_STATE);
+    }
+
+    void exceeded(String call, RibbedLoans x, IntSupplier made) {
+        keeps(call, x, made, RibbedLoans.CAPACITY_EXCEEDED);
+    }
+
+    /** The call succeeds, and records the state before it, which undo brings back. */
+    void isAction(String call, RibbedLoans x, IntSupplier made) {
+        List<Integer> before = lookAtCity(x);
+        int snapshots = x.count(15);
+        int states = x.count(16);
+        holds(call + " succeeds", made.getAsInt() >= 0);
+        due("states behind " + call, x.count(16), Math.min(5, states + 1));
+        due("undo of " + call, x.undo(), Math.min(4, states));
+        holds("all is as before " + call, lookAtCity(x).equals(before));
+        due("snapshots before " + call, x.count(15), snapshots);
+    }
+
     private void tell(String line) {
         wrong++;
         if (wrong <= MOST_LINES) {
-            System.out.println(line);
+            System.out.println(test + ": " + line);
         }
     }
 
@@ -41,9 +70,18 @@ final class Check {
         return wrong;
     }
 
-    void end(String name) {
-        System.out.println(name + ": " + made + " checks, " + wrong + " wrong");
-        if (wrong != 0 || made == 0) {
+    boolean passed() {
+        if (made == 0) {
+            tell("a check");
+        }
+        return wrong == 0;
+    }
+
+    /** Ends a test that is a program of its own. */
+    void end() {
+        boolean good = passed();
+        System.out.println(test + ": " + made + " checks, " + wrong + " wrong");
+        if (!good) {
             System.exit(1);
         }
     }
@@ -85,11 +123,5 @@ final class Check {
             }
         }
         return seen;
-    }
-
-    static void write(RibbedLoans x, String text) {
-        for (int i = 0; i < text.length(); i++) {
-            x.append(text.charAt(i));
-        }
     }
 }

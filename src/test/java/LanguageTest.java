@@ -11,7 +11,7 @@ import java.util.regex.Pattern;
 
 /** The face of the class, and what of ../shared/LANGUAGE.md can be seen in its text. Runs in the project's folder. */
 public final class LanguageTest {
-    private static final Check CHECK = new Check();
+    private static final Check CHECK = new Check("LanguageTest");
     private static final Set<String> FACE = Set.of("buy/2", "set/2", "borrow/2", "bringBack/2", "hour/2", "load/3",
         "unload/3", "toWorkshop/1", "mend/1", "level/0", "take/1", "restore/1", "undo/0", "append/1", "clearText/0",
         "carryOut/0", "count/1", "umbrella/2", "stand/2", "person/2", "inVan/2", "feeIn/3", "breaksIn/3",
@@ -21,7 +21,7 @@ public final class LanguageTest {
         face();
         classesInside();
         text();
-        CHECK.end("LanguageTest");
+        CHECK.end();
     }
 
     private static void face() {

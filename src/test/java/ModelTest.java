@@ -3,7 +3,7 @@ import java.util.function.ToIntFunction;
 
 /** Long runs of calls on the class and on the model, side by side; every answer and every look must be alike. */
 public final class ModelTest {
-    private static final Check CHECK = new Check();
+    private static final Check CHECK = new Check("ModelTest");
     private static final int RUNS = 400;
     /** More than the document tells of, so that some runs come to the last hour. */
     private static final int CALLS = 640;
@@ -28,7 +28,7 @@ public final class ModelTest {
             new ModelTest(run).run(run);
         }
         allMet();
-        CHECK.end("ModelTest");
+        CHECK.end();
     }
 
     private static void allMet() {

@@ -2,7 +2,7 @@ import java.lang.management.ManagementFactory;
 
 /** What is made: an object's rows once, and nothing by its calls. */
 public final class RoomTest {
-    private static final Check CHECK = new Check();
+    private static final Check CHECK = new Check("RoomTest");
     private static final com.sun.management.ThreadMXBean THREADS =
         (com.sun.management.ThreadMXBean) ManagementFactory.getThreadMXBean();
     private static final int MOST_BYTES_AN_OBJECT = 40000;
@@ -18,7 +18,7 @@ public final class RoomTest {
         before = made();
         calls(x);
         CHECK.holds("calls make nothing", made() - before < NOISE);
-        CHECK.end("RoomTest");
+        CHECK.end();
     }
 
     private static long made() {
