@@ -4,8 +4,8 @@ import java.nio.file.Files;
 import java.nio.file.Path;
 
 /**
- * The words that the tests say stand in ../shared/DOC.md, and there is no sentence in its terms and its promises that no
- * test says. Runs in the project's folder.
+ * The words that the tests say stand in ../shared/DOC.md, and each sentence of its terms and its promises is said by a
+ * test. Runs in the project's folder.
  */
 public final class DocumentTest {
     private static final Check CHECK = new Check("DocumentTest");
@@ -32,8 +32,8 @@ public final class DocumentTest {
         int end = document.indexOf(promise == PROMISES ? "## Not promised" : "## Promise " + (promise + 1) + ":");
         CHECK.holds("section " + promise + " is there", start >= 0 && end > start);
         String text = document.substring(start, end);
-        text = text.substring(text.indexOf('\n')).replaceAll("Ahead of the calls [^\n]*\n", " ").replaceAll("\\s+", " ");
-        return text.replaceAll("\\n\\d\\. ", " ").replaceFirst("^ `[A-Za-z ]+\\([^)]*\\)`: ", " ");
+        text = text.substring(text.indexOf('\n')).replaceAll("Ahead of the calls [^\n]*\n", " ");
+        return text.replaceAll("\\s+", " ").replaceFirst("^ `[A-Za-z ]+\\([^)]*\\)`: ", " ");
     }
 
     private static void everySentenceIsSaid(int promise, String text) {
@@ -41,10 +41,8 @@ public final class DocumentTest {
         for (Class<?> tests : TESTS) {
             for (Method test : Sentences.of(tests)) {
                 Says says = test.getAnnotation(Says.class);
-                for (String words : says.words()) {
-                    if (says.promise() == promise) {
-                        CHECK.holds(test.getName() + ": <" + words + "> in section " + promise, mark(text, words, said));
-                    }
+                for (String words : says.promise() == promise ? says.words() : new String[0]) {
+                    CHECK.holds(test.getName() + ": <" + words + "> in section " + promise, mark(text, words, said));
                 }
             }
         }

@@ -10,8 +10,8 @@ public final class ForecastTest {
 
     // ---- feeIn
 
-    @Says(promise = 23, words = "Tells the fee that a person would pay, if it brought its umbrella back behind some hours"
-        + " of a rain without gusts")
+    @Says(promise = 23, words = "Tells the fee that a person would pay, if it brought its umbrella back behind some"
+        + " hours of a rain without gusts")
     static void feeInAsItWouldBe(Check c) {
         for (int wear : new int[] {0, 9, 15, 16, 31}) {
             for (int rate : new int[] {0, 1, 3}) {
@@ -148,8 +148,8 @@ public final class ForecastTest {
         x.borrow(11, 4);
         int told = x.breaksIn(11, rain, gusts);
         for (int hours = 1; hours <= told; hours++) {
-            int broken = x.hour(rain, gusts);
-            c.due("hour " + hours + " from wear " + wear + " by " + rain + " and " + gusts, broken, hours == told ? 1 : 0);
+            String label = "hour " + hours + " from wear " + wear + " by " + rain + " and " + gusts;
+            c.due(label, x.hour(rain, gusts), hours == told ? 1 : 0);
         }
         c.due("broken", x.person(11, 3), 1);
     }
@@ -269,11 +269,28 @@ public final class ForecastTest {
         c.keeps("a broken one is no best one; 0, 1 and 7 want one", y, y::emptied, 255);
         emptiedAlike(c, y);
         RibbedLoans z = Town.worn(3, 31, 31, 31, 31, 31);
-        c.keeps("the wear of those in stands stays, seven persons for five", z, z::emptied, 255);
+        c.keeps("six persons for five, whose wear stays", z, z::emptied, 255);
         emptiedAlike(c, z);
-        z.buy(3, 3);
-        c.keeps("seven persons for eight", z, z::emptied, 255 - 8);
+        z.buy(3, 1);
+        c.keeps("six for six", z, z::emptied, 255);
         emptiedAlike(c, z);
+        z.buy(3, 1);
+        c.keeps("six for seven", z, z::emptied, 255 - 8);
+        emptiedAlike(c, z);
+    }
+
+    @Says(promise = 25, words = "Finds the stands that have no best umbrella behind a surge now")
+    static void emptiedWithABrokenOneInHand(Check c) {
+        RibbedLoans x = new RibbedLoans();
+        x.buy(7, 2);
+        x.borrow(7, 7);
+        c.keeps("person 7 has one", x, x::emptied, 255 - 128);
+        for (int i = 0; i < 6; i++) {
+            x.hour(0, 3);
+        }
+        c.due("it broke", x.person(7, 3), 1);
+        c.keeps("and still borrows none", x, x::emptied, 255 - 128);
+        emptiedAlike(c, x);
     }
 
     private static void emptiedAlike(Check c, RibbedLoans x) {
@@ -346,8 +363,8 @@ public final class ForecastTest {
         c.due("more than it could hold", x.shortest(1), 5);
     }
 
-    @Says(promise = 26, words = "so that at a surge now (an hour of rain 5 without gusts) each person that would borrow there,"
-        + " were there enough, gets one")
+    @Says(promise = 26, words = "so that at a surge now (an hour of rain 5 without gusts) each person that would borrow"
+        + " there, were there enough, gets one")
     static void shortestForThoseThatWouldBorrow(Check c) {
         RibbedLoans x = new RibbedLoans();
         for (int stand = 0; stand < 8; stand++) {
@@ -366,6 +383,16 @@ public final class ForecastTest {
         Town.waitUntil(x, 500);
         x.load(0, 3, 1);
         c.due("at 500, too", x.shortest(0), 3);
+        RibbedLoans y = new RibbedLoans();
+        for (int stand = 0; stand < 8; stand++) {
+            y.buy(stand, 2);
+        }
+        y.borrow(5, 5);
+        for (int i = 0; i < 6; i++) {
+            y.hour(0, 3);
+        }
+        y.load(0, 5, 1);
+        c.due("5 has one, a broken one", y.shortest(0), NONE);
     }
 
     @Says(promise = 26, words = ", of those to which any have to be.")

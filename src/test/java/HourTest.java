@@ -181,6 +181,13 @@ public final class HourTest {
         c.due("the rest stays", x.stand(3, 1), 2);
         c.due("coins of 3", x.person(3, 0), 30);
         c.due("loans", x.count(12), 2);
+        x.hour(4, 3);
+        x.hour(4, 3);
+        x.hour(5, 3);
+        c.due("it broke", x.person(3, 3), 1);
+        x.hour(5, 0);
+        c.due("a broken one is one in hand", x.person(3, 1), 0);
+        c.due("loans", x.count(12), 2);
     }
 
     @Says(words = "and at least 10 coins")

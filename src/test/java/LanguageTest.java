@@ -7,6 +7,7 @@ import java.nio.file.Files;
 import java.nio.file.Path;
 import java.util.Set;
 import java.util.TreeSet;
+import java.util.regex.Matcher;
 import java.util.regex.Pattern;
 
 /** The face of the class, and what of ../shared/LANGUAGE.md can be seen in its text. Runs in the project's folder. */
@@ -17,10 +18,18 @@ public final class LanguageTest {
         "carryOut/0", "count/1", "umbrella/2", "stand/2", "person/2", "inVan/2", "feeIn/3", "breaksIn/3",
         "emptied/0", "shortest/1");
 
+    private static final Set<String> LIBRARY = Set.of("Math.max", "Math.min", "Arrays.fill", "System.arraycopy");
+    private static final int MOST_LINES = 60;
+
     public static void main(String[] args) throws IOException {
         face();
         classesInside();
-        text();
+        String source = Files.readString(Path.of("src/main/java/RibbedLoans.java"));
+        CHECK.holds("signs 1 to 127 alone", source.chars().allMatch(sign -> sign > 0 && sign < 128));
+        String code = source.replaceAll("(?s)/\\*.*?\\*/", " ").replaceAll("//[^\n]*", " ");
+        noForbiddenWords(code);
+        library(code);
+        shortMethods(source);
         CHECK.end();
     }
 
@@ -47,6 +56,7 @@ public final class LanguageTest {
             && constructors[0].getParameterCount() == 0 && Modifier.isPublic(constructors[0].getModifiers()));
         Set<String> constants = new TreeSet<>();
         for (Field field : RibbedLoans.class.getDeclaredFields()) {
+            CHECK.holds(field + " is final", Modifier.isFinal(field.getModifiers()));
             if (!Modifier.isPrivate(field.getModifiers())) {
                 constants.add(field.getName());
             }
@@ -68,6 +78,8 @@ public final class LanguageTest {
             int fields = 0;
             for (Field field : one.getDeclaredFields()) {
                 fields += Modifier.isStatic(field.getModifiers()) ? 0 : 1;
+                CHECK.holds(field + " is no changing static one",
+                    Modifier.isFinal(field.getModifiers()) || !Modifier.isStatic(field.getModifiers()));
             }
             CHECK.holds(one + " has few fields", fields <= 20);
             for (Method method : one.getDeclaredMethods()) {
@@ -78,17 +90,37 @@ public final class LanguageTest {
         }
     }
 
-    private static void text() throws IOException {
-        String source = Files.readString(Path.of("src/main/java/RibbedLoans.java"));
-        String code = source.replaceAll("(?s)/\\*.*?\\*/", " ").replaceAll("//[^\n]*", " ");
+    private static void noForbiddenWords(String code) {
         String[] banned = {"\\bthrow\\b", "\\btry\\b", "\\bcatch\\b", "\\bsynchronized\\b", "\\bassert\\b", "->", "::",
             "\\bpackage\\b", "\\bvar\\b", "\\bprotected\\b", "\\bObject\\b", "\\bSystem\\.(?!arraycopy\\b)",
             "\\bThread\\b", "\\bRandom\\b", "Exact\\b", "\\bstatic\\s*\\{", "\\bwhile\\s*\\(true\\)", "for\\s*\\(;;\\)",
-            "@\\w"};
+            "@\\w", "\\binstanceof\\b", "\"", "\\bfloat\\b", "\\bdouble\\b"};
         for (String pattern : banned) {
             CHECK.holds("no " + pattern, !Pattern.compile(pattern).matcher(code).find());
         }
+    }
+
+    /** The class needs these alone of the library. */
+    private static void library(String code) {
         CHECK.holds("imports Arrays alone", code.replace("import java.util.Arrays;", "").indexOf("import ") < 0);
-        CHECK.holds("signs 1 to 127 alone", source.chars().allMatch(sign -> sign > 0 && sign < 128));
+        String names = "\\b(?:Math|Arrays|System|Integer|Long|String|StringBuilder|List|ArrayList)\\b(?:\\.\\w+)?";
+        Matcher used = Pattern.compile(names).matcher(code.replace("import java.util.Arrays;", ""));
+        while (used.find()) {
+            CHECK.holds(used.group() + " may be used", LIBRARY.contains(used.group()));
+        }
+    }
+
+    private static void shortMethods(String source) {
+        String[] lines = source.split("\n");
+        for (int i = 0; i < lines.length; i++) {
+            if (lines[i].matches("( {4}| {8})(?!.*\\bclass\\b)\\w.*\\) \\{")) {
+                String end = lines[i].substring(0, lines[i].length() - lines[i].stripLeading().length()) + "}";
+                int last = i;
+                while (last < lines.length && !lines[last].equals(end)) {
+                    last++;
+                }
+                CHECK.holds("is short:" + lines[i], last - i < MOST_LINES);
+            }
+        }
     }
 }

@@ -585,6 +585,11 @@ public final class LoansTest {
         x.borrow(11, 3);
         c.illegal("person 0", x, () -> x.borrow(0, 3));
         c.illegal("person 11", x, () -> x.borrow(11, 3));
+        for (int i = 0; i < 6; i++) {
+            x.hour(0, 3);
+        }
+        c.due("broken", x.person(0, 3), 1);
+        c.illegal("one in hand that is broken", x, () -> x.borrow(0, 3));
     }
 
     @Says(promise = 4, words = "or fewer than 10 coins")

@@ -1,3 +1,5 @@
+import java.util.Arrays;
+
 /** Promises 18 to 22: count, umbrella, stand, person, inVan. */
 public final class LookingTest {
     private static final int NONE = RibbedLoans.NONE;
@@ -155,7 +157,8 @@ public final class LookingTest {
         c.due("rate", x.count(14), 0);
     }
 
-    @Says(promise = 18, words = {"15 the number of snapshots", "16 of states in the history", "17 the length of the text"})
+    @Says(promise = 18, words = {"15 the number of snapshots", "16 of states in the history",
+        "17 the length of the text"})
     static void countSnapshotsStatesCharacters(Check c) {
         RibbedLoans x = new RibbedLoans();
         x.take(1);
@@ -369,11 +372,12 @@ public final class LookingTest {
     @Says(promise = 20, words = "5 the mean wear of those in it in hundredths: the sum divided by their number,"
         + " times 100, exactly, and then cut (0 if it is empty)")
     static void standMean(Check c) {
-        int[][] rows = {{0}, {1, 12}, {7, 87}, {8, 100}, {64, 800}, {8, 0, 50}, {1, 0, 6}, {1, 0, 0, 4}, {14, 37, 7, 241},
-            {8, 8, 0, 66}, {64, 64, 63, 795}, {1, 1, 1, 1, 1, 0, 0, 8}, {31, 33, 32, 31, 396}};
+        // Some wears, and last the mean of them.
+        int[][] rows = {{0}, {1, 12}, {7, 87}, {8, 100}, {64, 800}, {8, 0, 50}, {1, 0, 6}, {1, 0, 0, 4},
+            {14, 37, 7, 241}, {8, 8, 0, 66}, {64, 64, 63, 795}, {1, 1, 1, 1, 1, 0, 0, 8}, {31, 33, 32, 31, 396}};
         for (int[] row : rows) {
-            RibbedLoans x = Town.worn(7, java.util.Arrays.copyOf(row, row.length - 1));
-            c.due("mean of " + java.util.Arrays.toString(row), x.stand(7, 5), row[row.length - 1]);
+            RibbedLoans x = Town.worn(7, Arrays.copyOf(row, row.length - 1));
+            c.due("mean of " + Arrays.toString(row), x.stand(7, 5), row[row.length - 1]);
         }
         RibbedLoans x = Town.worn(7, 64, 64, 64, 64, 64, 64, 64, 64, 64, 64, 64, 63);
         x.buy(7, 8);

@@ -141,11 +141,15 @@ public final class TextTest {
         for (int digit = 0; digit <= 9; digit++) {
             noFault(c, "h" + digit + ",4", 0);
             noFault(c, "h" + digit + ",0", 1);
-            noFault(c, "h1" + digit + ",0", 0);
+            noFault(c, "b" + digit + "@2", 1);
+            noFault(c, "b5@" + digit, digit == 2 ? 1 : 0);
         }
-        noFault(c, "b10@2", 1);
-        noFault(c, "b99@99", 0);
-        noFault(c, "b90@90", 0);
+        for (int number = 10; number <= 99; number++) {
+            noFault(c, "b" + number + "@2", number < 12 ? 1 : 0);
+            noFault(c, "b1@" + number, 0);
+            noFault(c, "h" + number + ",0", 0);
+            noFault(c, "h0," + number, 0);
+        }
         fault(c, "b100@2", 3);
         fault(c, "b1@100", 5);
         fault(c, "r123@2", 3);
@@ -230,7 +234,8 @@ public final class TextTest {
         c.due("no action but the buying and the orders", x.count(16), 2);
     }
 
-    @Says(promise = 15, words = {"`character`: character code, 1 to 255", "INVALID_ARGUMENT if character is out of range"})
+    @Says(promise = 15, words = {"`character`: character code, 1 to 255",
+        "INVALID_ARGUMENT if character is out of range"})
     static void appendCharacters1To255(Check c) {
         RibbedLoans x = new RibbedLoans();
         for (int character : new int[] {0, 256, -1, MIN, MAX, 65536 + 'l', 256 + 'l'}) {

@@ -94,6 +94,11 @@ public final class WorkshopTest {
         }
         c.due("broken ones count", y.level(), 1);
         inStands(c, y, 2, 1, 1, 2, 1, 1, 1, 1);
+        RibbedLoans z = Town.worn(3, 40, 0);
+        for (int stand = 0; stand < 8; stand++) {
+            z.buy(stand, stand == 3 ? 0 : stand == 6 ? 3 : 2);
+        }
+        c.due("where one would come to, too", z.level(), 0);
     }
 
     @Says(words = "more than another one that has room, the best umbrella")
@@ -130,6 +135,9 @@ public final class WorkshopTest {
         RibbedLoans y = new RibbedLoans();
         y.buy(1, 4);
         y.buy(6, 6);
+        // The number tells which is fuller, not how much of the room is left.
+        y.set(1, 4);
+        y.set(6, 20);
         c.due("moved", y.level(), 6);
         c.due("the fullest before a smaller one", y.umbrella(4, 1), 0);
         c.due("again", y.umbrella(5, 1), 2);
@@ -150,6 +158,22 @@ public final class WorkshopTest {
             c.due("goes to", x.umbrella(i, 1), want[i]);
         }
         inStands(c, x, 2, 1, 2, 2, 1, 1, 1, 2);
+        emptiestWithBrokenOnes(c);
+    }
+
+    private static void emptiestWithBrokenOnes(Check c) {
+        RibbedLoans y = Town.worn(0, 40, 40);
+        for (int stand = 1; stand < 8; stand++) {
+            y.buy(stand, stand == 7 ? 3 : 1);
+        }
+        c.due("to 1, though 0 has none that is whole", y.level(), 1);
+        inStands(c, y, 2, 2, 1, 1, 1, 1, 1, 2);
+        RibbedLoans z = Town.worn(1, 40);
+        for (int stand = 0; stand < 8; stand++) {
+            z.buy(stand, stand == 1 ? 0 : stand == 7 ? 3 : 1);
+        }
+        c.due("to 0, though 1 has none that is whole", z.level(), 1);
+        inStands(c, z, 2, 1, 1, 1, 1, 1, 1, 2);
     }
 
     @Says(words = "if the fullest stand has no best one, levelling ends.")
