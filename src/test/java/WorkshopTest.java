@@ -116,6 +116,13 @@ public final class WorkshopTest {
         x.set(6, 20);
         c.due("places enough", x.level(), 1);
         inStands(c, x, 1, 1, 1, 1, 3, 1, 3, 1);
+        RibbedLoans y = new RibbedLoans();
+        for (int stand = 0; stand < 8; stand++) {
+            y.set(stand, stand == 4 ? 5 : 1);
+            y.buy(stand, stand == 4 ? 5 : 1);
+        }
+        c.due("no room anywhere", y.level(), 0);
+        inStands(c, y, 1, 1, 1, 1, 5, 1, 1, 1);
     }
 
     @Says(words = "the best umbrella of the fullest stand (of several the smallest stand)")
@@ -142,6 +149,25 @@ public final class WorkshopTest {
         c.due("the fullest before a smaller one", y.umbrella(4, 1), 0);
         c.due("again", y.umbrella(5, 1), 2);
         c.due("1 of two with four", y.umbrella(0, 1), 3);
+        for (int stand = 0; stand < 8; stand += 7) {
+            RibbedLoans z = new RibbedLoans();
+            z.buy(stand, 3);
+            c.due("from the first or the last stand alone", z.level(), 2);
+            c.due("its best one", z.umbrella(0, 1), stand == 0 ? 1 : 0);
+            c.due("one is left", z.stand(stand, 1), 1);
+        }
+        firstAndLastAlike(c);
+    }
+
+    private static void firstAndLastAlike(Check c) {
+        RibbedLoans x = new RibbedLoans();
+        x.buy(7, 3);
+        x.buy(0, 3);
+        for (int stand = 1; stand < 7; stand++) {
+            x.buy(stand, stand == 3 ? 1 : 2);
+        }
+        c.due("moved", x.level(), 1);
+        c.due("0 of 0 and 7 gives", x.umbrella(3, 1), 3);
     }
 
     @Says(words = "goes to the emptiest one with room (of several the smallest stand)")
